@@ -384,7 +384,7 @@ public final class DotScreens {
         if (n < 2 || n > 3 || i < 0 || i >= n || !isAxis(what)) {
             return NONE;
         }
-        if (!isCell(low) || low < 0 || !isCell(high) || high < 0 || high - low > SPAN_MOST) {
+        if (low < 1 || low > CELL_MOST || high < 1 || high > CELL_MOST || high - low > SPAN_MOST) {
             return NONE;
         }
         chooser.pick(n, low, high, isFar);
@@ -756,11 +756,10 @@ public final class DotScreens {
         private final int[] parts = new int[INKS_MOST * PARTS];
         private final Tape tape;
         private int place;
+        private int sign;
         private int clauses;
         private int wrong;
-        private boolean hasSpot;
-        private boolean hasTone;
-        private boolean hasOffset;
+        private int had;
 
         Reader(Tape from) {
             tape = from;
@@ -778,31 +777,29 @@ public final class DotScreens {
         }
 
         void read() {
-            place = 0;
+            place = -1;
             clauses = 0;
             wrong = NONE;
-            skipBlanks();
-            if (sign() == END) {
+            pass();
+            if (sign == END) {
                 return;
             }
-            // a fifth clause is wrong at its s, so this ends after it at the latest
-            for (int i = 0; i <= INKS_MOST && readClause() && sign() == ';'; i++) {
+            // a fifth clause is wrong at its s, so this ends there at the latest
+            for (int i = 0; i <= INKS_MOST && readClause() && sign == ';'; i++) {
                 pass();
             }
         }
 
-        private int sign() {
-            return place >= 0 && place < tape.length ? at(tape.bytes, place) : END;
-        }
-
-        private void pass() {
+        private void move() {
             place++;
-            skipBlanks();
+            sign = place >= 0 && place < tape.length && place < TAPE_MOST ? tape.bytes[place] : END;
         }
 
-        private void skipBlanks() {
-            for (int i = 0; i < TAPE_MOST && sign() == ' '; i++) {
-                place++;
+        /** Moves on, and over blanks. */
+        private void pass() {
+            move();
+            for (int i = 0; i < TAPE_MOST && sign == ' '; i++) {
+                move();
             }
         }
 
@@ -811,31 +808,21 @@ public final class DotScreens {
             return false;
         }
 
-        /** Passes a sign that must stand here. */
-        private boolean must(int due) {
-            if (sign() != due) {
+        /** Leaves the reader at a ; or at the end, if it reads a clause. */
+        private boolean readClause() {
+            if (sign != 's' || clauses >= INKS_MOST) {
                 return failAt(place);
             }
             pass();
-            return true;
-        }
-
-        /** Leaves the reader at a ; or at the end, if it reads a clause. */
-        private boolean readClause() {
-            if (clauses >= INKS_MOST) {
-                return failAt(place);
-            }
-            if (!must('s') || !readScreen()) {
+            if (!readScreen()) {
                 return false;
             }
-            hasSpot = false;
-            hasTone = false;
-            hasOffset = false;
+            had = 0;
             tell(SPOT, ROUND);
             tell(TONE, TONE_WITHOUT);
             tell(OFFSET_X, 0);
             tell(OFFSET_Y, 0);
-            for (int i = 0; i < TAPE_MOST && sign() != END && sign() != ';'; i++) {
+            for (int i = 0; i < TAPE_MOST && sign != END && sign != ';'; i++) {
                 if (!readLetter()) {
                     return false;
                 }
@@ -848,7 +835,7 @@ public final class DotScreens {
             if (!readCouple(A, PAIR_MOST)) {
                 return false;
             }
-            if (sign() == ',') {
+            if (sign == ',') {
                 pass();
                 return readCouple(C, PAIR_MOST);
             }
@@ -858,67 +845,59 @@ public final class DotScreens {
         }
 
         private boolean readLetter() {
-            switch (sign()) {
-                case 'r': return readSpot(ROUND);
-                case 'd': return readSpot(DIAMOND);
-                case 'l': return readSpot(LINE);
-                case 't':
-                    if (hasTone) {
-                        return failAt(place);
-                    }
-                    hasTone = true;
-                    pass();
-                    return readNumber(TONE, TONE_MOST, 3);
-                case 'o':
-                    if (hasOffset) {
-                        return failAt(place);
-                    }
-                    hasOffset = true;
-                    pass();
-                    return readCouple(OFFSET_X, OFFSET_MOST);
-                default: return failAt(place);
+            int letter = sign;
+            int part = partOf(letter);
+            if (part == NONE || (had >> part & 1) == 1) {
+                return failAt(place);
+            }
+            had |= 1 << part;
+            pass();
+            switch (letter) {
+                case 't': return readNumber(TONE, TONE_MOST, 3);
+                case 'o': return readCouple(OFFSET_X, OFFSET_MOST);
+                default:
+                    tell(SPOT, letter == 'r' ? ROUND : letter == 'd' ? DIAMOND : LINE);
+                    return true;
             }
         }
 
-        private boolean readSpot(int kind) {
-            if (hasSpot) {
-                return failAt(place);
+        private static int partOf(int letter) {
+            switch (letter) {
+                case 'r':
+                case 'd':
+                case 'l': return SPOT;
+                case 't': return TONE;
+                case 'o': return OFFSET_X;
+                default: return NONE;
             }
-            hasSpot = true;
-            tell(SPOT, kind);
-            pass();
-            return true;
         }
 
         private boolean readCouple(int part, int most) {
-            return readSigned(part, most) && must(',') && readSigned(part + 1, most);
-        }
-
-        private boolean readSigned(int part, int most) {
-            boolean isBelow = sign() == '-';
-            if (isBelow) {
-                // no blanks may stand behind it
-                place++;
-            }
             if (!readNumber(part, most, 2)) {
                 return false;
             }
-            if (isBelow) {
-                tell(part, -told(clauses, part));
+            if (sign != ',') {
+                return failAt(place);
             }
-            return true;
+            pass();
+            return readNumber(part + 1, most, 2);
         }
 
         private boolean readNumber(int part, int most, int digitsMost) {
+            boolean isBelow = sign == '-' && part != TONE;
+            if (isBelow) {
+                // no blank may stand behind it, so none is passed
+                move();
+            }
             int value = 0;
             int digits = 0;
-            for (int i = 0; i < TAPE_MOST && sign() >= '0' && sign() <= '9'; i++) {
+            for (int i = 0; i < TAPE_MOST && sign >= '0' && sign <= '9'; i++) {
                 if (digits == digitsMost) {
                     return failAt(place);
                 }
-                value = value * 10 + sign() - '0';
+                value = value * 10 + sign - '0';
                 digits++;
-                place++;
+                move();
             }
             if (digits == 0) {
                 return failAt(place);
@@ -926,8 +905,10 @@ public final class DotScreens {
             if (value > most) {
                 return failAt(place - 1);
             }
-            tell(part, value);
-            skipBlanks();
+            tell(part, isBelow ? -value : value);
+            if (sign == ' ') {
+                pass();
+            }
             return true;
         }
     }
@@ -1214,9 +1195,8 @@ public final class DotScreens {
                 spots[i] = value;
                 int k = i;
                 // only a greater one goes behind: those alike stay in the order of their numbers
-                while (k > 0 && at(spots, order[k - 1]) > value) {
+                for (; k > 0 && at(spots, order[k - 1]) > value; k--) {
                     order[k] = order[k - 1];
-                    k--;
                 }
                 order[k] = i;
             }
@@ -1355,7 +1335,7 @@ public final class DotScreens {
             foundX = 0;
             foundY = 0;
             int root = place;
-            for (int i = 0; i < CELL_MOST && roots[root] != root; i++) {
+            for (int i = 0; i < CELL_MOST && isPlace(roots[root]) && roots[root] != root; i++) {
                 foundX += wayX[root];
                 foundY += wayY[root];
                 root = roots[root];
@@ -1514,6 +1494,9 @@ public final class DotScreens {
         private boolean isBehind(int couple, int than) {
             int nearer = lastFar ? couple : than;
             int farther = lastFar ? than : couple;
+            if (nearer < 0 || nearer >= uppers.length || farther < 0 || farther >= uppers.length) {
+                return false;
+            }
             return isFarther(uppers[farther], lowers[farther], uppers[nearer], lowers[nearer]);
         }
 
