@@ -56,6 +56,23 @@ public final class TextTest {
         Check.due("nothing of a refused feed came", x.count(1), 159);
         Check.due("one more", x.feed(0, 0, 0x00200000, 0, 0), 160);
         Check.due("text", x.text(), 0);
+        eachNumberCounts();
+    }
+
+    /** Bytes of each of the five numbers fill the tape, in their order. */
+    private static void eachNumberCounts() {
+        for (int place = 0; place < 20; place++) {
+            int[] words = new int[5];
+            words[place / 4] = 32 << 24 - place % 4 * 8;
+            DotScreens x = new DotScreens();
+            Check.feed(x, " ".repeat(159));
+            Check.due("to 160", x.feed(words[0], words[1], words[2], words[3], words[4]), 160);
+            Check.due("beyond", x.feed(words[0], words[1], words[2], words[3], words[4]), NONE);
+            Check.due("count", x.count(1), 160);
+        }
+        DotScreens y = new DotScreens();
+        Check.due("in order", y.feed(0x73000000, 0x00310000, 0x00002c00, 0x00000031, 0x3a000000), 5);
+        Check.due("in order", y.fault(), 4);
     }
 
     private static void fault(String text, int want) {
