@@ -19,6 +19,7 @@ public final class CouplesTest {
         }
         byHand();
         chosen();
+        everySpan();
         noSuchOnes();
         Check.end();
     }
@@ -176,6 +177,25 @@ public final class CouplesTest {
                 chosen(x, n, span[0], span[1], true);
                 chosen(x, n, span[0], span[1], false);
             }
+        }
+    }
+
+    /** One object asked for all spans in turn, so that no choice is that of the span ahead. */
+    private static void everySpan() {
+        DotScreens x = new DotScreens();
+        for (int low = 1; low <= 144; low++) {
+            int high = Math.min(low + 20, 144);
+            chosen(x, 2, low, high, true);
+            chosen(x, 2, low, high, false);
+            chosen(x, 3, low, high, false);
+            chosen(x, 3, low, high, true);
+            chosen(x, 3, low, Math.max(low, high - 3), true);
+        }
+        for (int low = 5; low <= 25; low++) {
+            chosen(x, 2, low, 25, true);
+        }
+        for (int high = 5; high <= 25; high++) {
+            chosen(x, 2, 5, high, true);
         }
     }
 
