@@ -85,6 +85,15 @@ final class ChoiceEdges {
             Edge.due("20 from " + low, Ask.of(x, "choose(2, " + span + ", true, 0, 0)") > 0 ? 1 : 0, 1);
             Edge.due("20 from " + low, Ask.of(x, "choose(3, " + span + ", false, 2, 0)") > 0 ? 1 : 0, 1);
         }
+        // no span has more squares than these two: 20
+        choice("2, 65, 85, true", 1, 9, 2, 9);
+        choice("2, 65, 85, false", 4, 7, 8, 2);
+        choice("3, 65, 85, true", 6, 6, 6, 7, 7, 6);
+        choice("3, 65, 85, false", 4, 7, 7, 4, 9, 0);
+        choice("2, 97, 117, true", 3, 10, 4, 10);
+        choice("2, 97, 117, false", 7, 7, 10, 0);
+        choice("3, 97, 117, true", 6, 8, 7, 8, 6, 9);
+        choice("3, 97, 117, false", 4, 9, 8, 6, 10, 1);
     }
 
     private static void best() {
@@ -94,11 +103,15 @@ final class ChoiceEdges {
         choice("3, 5, 9, true", 1, 2, 2, 2, 3, 0);
         choice("2, 8, 9, true", 2, 2, 3, 0);
         choice("2, 5, 8, true", 1, 2, 2, 2);
+        // each of the three couples may be the nearest
+        choice("3, 4, 8, true", 2, 0, 1, 2, 2, 1);
+        choice("3, 6, 10, true", 2, 2, 1, 3, 3, 1);
 
         Edge.of(TERMS, "or FINE: so that the greatest is least; ");
         choice("2, 5, 9, false", 1, 2, 2, 1);
         choice("3, 5, 9, false", 1, 2, 2, 1, 3, 0);
         choice("2, 8, 9, false", 2, 2, 3, 0);
+        choice("3, 2, 5, false", 1, 1, 1, 2, 2, 1);
 
         Edge.of(TERMS, "in a row by CELL, then A; of several the first row so. ");
         choice("3, 5, 8, true", 1, 2, 2, 1, 2, 2);
@@ -178,6 +191,9 @@ final class ChoiceEdges {
         // with 2, 2 both are 40 far; with 4, 3 this one is 125/8, 1, 2 is 25/2: the nearest tells, be it first or last
         bestTurn("s2,1;s2,2;s4,3", 2, 1);
         bestTurn("s2,1;s4,3;s2,2", 2, 1);
+        Edge.dueRow(Check.told("s4,3;s2,1"), "bestTurn(1, #)", 2, 1);
+        // a beat shorter than a pixel is one, too: 1/8
+        bestTurn("s1,0;s3,2,4,3", 1, 0);
 
         Edge.of(TERMS, "of several that of least A; ");
         bestTurn("s2,1;s1,0", 1, 2);

@@ -244,6 +244,10 @@ final class InkEdges {
         Edge.due(row, "screen(0, 11, 1, -12, 12)", 144);
         Edge.due(row, "spot(0, 5, 0)", 122);
         Edge.due(row, "spot(0, -6, 6)", 250);
+        Edge.due(row, "spot(0, 12, 0)", 10);
+        Edge.due(row, "spot(0, -10, 0)", 18);
+        Edge.due(row, "spot(0, -12, 0)", 10);
+        Edge.due(row, "spot(0, -23, 0)", 26);
 
         Edge.of(TERMS, "DIAMOND: the least of sums of doubled distances by X and by Y; ");
         Edge.due(Check.told("s1,0d"), "spot(0, 0, 0)", 2);
@@ -301,6 +305,9 @@ final class InkEdges {
                 Edge.due(moved, "ranked(0, " + want[y][i] + ", 1)", y);
             }
         }
+        // the first home is not the first rank
+        Edge.dueRow(Check.told("s3,1l"), "rank(0, #, 0)", 1, 0, 2, 3, 5, 7, 9, 8, 6, 4, 1);
+        Edge.dueRow(Check.told("s3,1l"), "ranked(0, #, 0)", 1, 0, 2, 3, 9, 4, 8, 5, 7, 6, HIDDEN);
         for (String text : new String[] {"s1,0", "s12,0", "s12,0d", "s12,0l", "s11,1,-12,12", "s11,1,-12,12l", "s1,0,0,12d"}) {
             eachOnce(text);
         }

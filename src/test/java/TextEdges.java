@@ -137,13 +137,31 @@ final class TextEdges {
         Edge.due(y, two, NONE);
         Edge.due(y, one, 160);
         Edge.due(y, "fault()", 159);
-        // the longest text that tells four inks, and the byte behind it
+        Edge.fault(" ".repeat(160), NONE);
+        Edge.fault(" ".repeat(159) + "s", 160);
+        lastByte();
+        // a long text that tells four inks, all of the tape
         String longest = "s-12,-11,-11,-10dt100o-99,-99";
         DotScreens z = new DotScreens();
         Check.feed(z, " ".repeat(160 - 4 * longest.length() - 3) + String.join(";", longest, longest, longest, longest));
         Edge.due(z, "count(1)", 160);
         Edge.due(z, "text()", 4);
         Edge.dueRow(z, "ink(3, #)", -12, -11, -11, -10, 1, 1, 100, 1, -99, -99);
+    }
+
+    /** Whatever a byte is and wherever it comes, it is one byte: the last that there is room for, or one too many. */
+    private static void lastByte() {
+        for (int place = 0; place < 20; place++) {
+            for (int sign : new int[] {1, 2, 4, 8, 16, 32, 64, 128, 129, 255}) {
+                int[] words = new int[5];
+                words[place / 4] = sign << 24 - place % 4 * 8;
+                String call = "feed(" + words[0] + ", " + words[1] + ", " + words[2] + ", " + words[3] + ", " + words[4] + ")";
+                DotScreens x = filled(159).get();
+                Edge.due(x, call, 160);
+                Edge.due(x, call, NONE);
+                Edge.due(x, "count(1)", 160);
+            }
+        }
     }
 
     /** An object whose tape has so many bytes: an ink, with its last letter in the last byte. */
@@ -456,6 +474,9 @@ final class TextEdges {
         Edge.fault("s130,1", 3);
         Edge.fault("s-999,1", 4);
         Edge.fault("s1,130", 5);
+        Edge.fault("s1,012", 5);
+        Edge.fault("s1,1,012,1", 7);
+        Edge.fault("s1,1,1,-000", 10);
         Edge.fault("s1300,1", 3);
         Edge.fault("s1,1,130,1", 7);
         Edge.fault("s1,1,1,-990", 10);
@@ -466,6 +487,7 @@ final class TextEdges {
         Edge.fault("s1,1o100", 7);
         Edge.fault("s1,1o000,1", 7);
         Edge.fault("s1,1o1,-990", 10);
+        Edge.fault("s1,1o1,012", 9);
     }
 
     private static void blanks() {
