@@ -5,16 +5,20 @@ import java.lang.reflect.Method;
 import java.lang.reflect.Modifier;
 import java.nio.file.Files;
 import java.nio.file.Path;
+import java.util.ArrayList;
 import java.util.Arrays;
 import java.util.Comparator;
+import java.util.List;
 import java.util.NoSuchElementException;
 import java.util.Random;
 import java.util.Set;
 import java.util.TreeSet;
+import java.util.regex.Matcher;
 import java.util.regex.Pattern;
 
 /** The public face, the rules of LANGUAGE.md that can be seen from outside, and that no call throws by itself. */
 public final class FaceTest {
+    private static final Path SOURCE = Path.of("src/main/java/DotScreens.java");
     private static final String[] FACE = {
         "int feed(int, int, int, int, int)", "boolean end(int)", "int fault()", "int text()", "int ink(int, int)",
         "int brick(int, int)", "int home(int, int, int, int)", "int reduced(int, int)", "int spot(int, int, int)",
@@ -29,7 +33,9 @@ public final class FaceTest {
 
     public static void main(String[] args) throws Exception {
         face();
+        faceAsWritten();
         source();
+        rules();
         neverThrows();
         Check.end();
     }
@@ -80,9 +86,79 @@ public final class FaceTest {
         Check.due("ink throws", thrown.length == 1 && thrown[0] == NoSuchElementException.class, true);
     }
 
+    /** Every line of the document's face stands in the class word for word; looked up where the document is. */
+    private static void faceAsWritten() throws IOException {
+        Path doc = Path.of("../shared/DOC.md");
+        if (!Files.exists(doc)) {
+            System.out.println("the document is not at " + doc + ": its face is not looked up");
+            return;
+        }
+        String text = Files.readString(doc);
+        text = text.substring(text.indexOf("## The public face"), text.indexOf("## Terms"));
+        String source = Files.readString(SOURCE);
+        int lines = 0;
+        for (String line : text.split("\n")) {
+            if (line.startsWith("    public ")) {
+                lines++;
+                String words = line.contains("=") ? line : line.replace(";", " {");
+                Check.due("the class has: " + words.trim(), source.contains("\n" + words + "\n"), true);
+            }
+        }
+        Check.due("lines of the face", lines, FACE.length + 3);
+    }
+
+    /** Bounds of LANGUAGE.md on the class's size, and where it makes objects. */
+    private static void rules() throws IOException {
+        Class<?>[] inside = DotScreens.class.getDeclaredClasses();
+        Check.due("twelve classes at most", inside.length + 1 <= 12, true);
+        fewFields(DotScreens.class);
+        for (Class<?> one : inside) {
+            fewFields(one);
+        }
+        List<String> lines = Files.readAllLines(SOURCE);
+        Check.due("sixty lines a method at most", longestMethod(lines) <= 60, true);
+        // rows are made with the object and used again: a call makes nothing but what it throws
+        List<String> made = new ArrayList<>();
+        for (String line : lines) {
+            if (line.contains("new ") && !line.contains("private final ") && !line.contains("* ")) {
+                made.add(line.trim());
+            }
+        }
+        Check.due("made but for fields: " + made, made.size() == 2 && made.get(0).equals("inks[i] = new Ink();")
+                && made.get(1).startsWith("throw new NoSuchElementException("), true);
+    }
+
+    /** A method begins with a line of its class's depth that ends in ") {" and goes to the next "}" of that depth. */
+    private static int longestMethod(List<String> lines) {
+        Pattern head = Pattern.compile("( {4}| {8})(?!if |for |while |switch |\\s).*\\) (throws \\w+ )?\\{");
+        int longest = 0;
+        for (int i = 0; i < lines.size(); i++) {
+            Matcher m = head.matcher(lines.get(i));
+            if (m.matches()) {
+                int end = i;
+                while (!lines.get(end).equals(m.group(1) + "}")) {
+                    end++;
+                }
+                longest = Math.max(longest, end - i + 1);
+            }
+        }
+        Check.due("methods were found", longest > 10, true);
+        return longest;
+    }
+
+    private static void fewFields(Class<?> one) {
+        int fields = 0;
+        for (Field f : one.getDeclaredFields()) {
+            boolean isStatic = Modifier.isStatic(f.getModifiers());
+            Check.due(f + " is final, if static", !isStatic || Modifier.isFinal(f.getModifiers()), true);
+            fields += isStatic ? 0 : 1;
+        }
+        Check.due(one + " has twenty fields at most", fields <= 20, true);
+    }
+
     /** Words that the rules leave out. */
     private static void source() throws IOException {
-        String source = Files.readString(Path.of("src/main/java/DotScreens.java"));
+        String source = Files.readString(SOURCE);
         String[] leftOut = {"->", "::", "\\btry\\b", "\\bcatch\\b", "\\bfinally\\b", "\\bassert\\b", "\\bsynchronized\\b",
             "Exact\\(", "\\bprotected\\b", "static \\{", "^package ", "Math\\.random", "\\bSystem\\.", "\\bwhile \\(true",
             "for \\(;;", "\\bgetMessage\\b", "^import (?!java\\.util\\.NoSuchElementException;)", "[^\\x00-\\x7f]"};
