@@ -6,7 +6,8 @@ import java.util.NoSuchElementException;
 
 /**
  * The whole document read a second time: the same face as the class, answered by search or by definition wherever that
- * ends in time, and sharing no line with the class or with Plain. It is slow, and keeps nothing but what inks are told.
+ * ends in time, without the class or Plain. It was written with the class in view, so it shows slips in how answers are
+ * found; where the document leaves room, it reads it as the class does.
  */
 final class Second {
     private static final int NONE = -1;
